@@ -1,0 +1,321 @@
+/** The promises one by one: ordinary inputs, the edges that the document names, wrong inputs. */
+public final class PromisesTest {
+    private static final int NONE = CircuitFiles.NONE;
+    private static final int[] ODD_NUMBERS = {NONE, -2, 1000, Integer.MAX_VALUE, Integer.MIN_VALUE};
+
+    /** Two inputs, two latches, variables 3 and 4 undefined, ands against their order. */
+    private static final String MIXED = "aag 9 2 2 3 3\n4\n2\n10 13\n12 18\n14\n11\n1\n"
+        + "14 18 4\n16 5 10\n18 2 13\no2 one\nl0 a b\ni1 x\ni0 yy\nc\nany thing";
+
+    private static final Checks checks = new Checks();
+
+    private PromisesTest() {
+    }
+
+    public static void main(String[] args) {
+        newObject();
+        feed();
+        end();
+        endAtTheTapesLimit();
+        load();
+        loadLeavesTheCircuitBefore();
+        fault();
+        many();
+        symbol();
+        textForm();
+        binaryForm();
+        orderOfAnds();
+        longestForms();
+        resetAndState();
+        value();
+        step();
+        checks.finish();
+    }
+
+    private static void newObject() {
+        Bench x = new Bench();
+        checks.same("NONE", CircuitFiles.NONE, -1);
+        checks.same("new: end(0)", x.call().end(0), 0);
+        for (int what = 0; what <= 4; what++) {
+            checks.same("new: many(" + what + ")", x.call().many(what), 0);
+        }
+        checks.same("new: fault(0)", x.call().fault(0), 0);
+        checks.same("new: fault(1)", x.call().fault(1), NONE);
+        checks.same("new: text", x.form(false), "aag 0 0 0 0 0\n");
+        checks.same("new: binary", x.form(true), "aig 0 0 0 0 0\n");
+        checks.same("new: state()", x.call().state(), 0);
+        checks.same("new: step(-1)", x.call().step(-1), 0);
+        checks.same("new: value(0, -1)", x.call().value(0, -1), 0);
+        checks.same("new: value(1, 0)", x.call().value(1, 0), 1);
+        checks.same("new: value(2, 0)", x.call().value(2, 0), NONE);
+        checks.same("new: symbol(0, 0, 0)", x.call().symbol(0, 0, 0), NONE);
+        checks.same("new: empty tape", x.read(""), "fault 1 at 0");
+    }
+
+    private static void feed() {
+        Bench x = new Bench();
+        String name = "\u00ff\u0080\u007f\u0000\u0001";
+        checks.same("feed: highest byte first", x.read("aag 1 1 0 0 0\n2\ni0 " + name + "\n"), "ands 0");
+        checks.same("feed: bytes above 127", x.name(0, 0), name);
+
+        x.call().feed(1, 2, 3, 4, 5);
+        x.call().feed(0x61616720, 0x30203020, 0x30203020, 0x300a780a, 0);
+        checks.same("feed: the latest counts", x.call().end(14), 14);
+        checks.same("feed: the latest counts", x.load(), "ands 0");
+        checks.same("feed: all twenty bytes", x.read("aag 0 0 0 0 0\nc\n1234"), "ands 0");
+    }
+
+    private static void end() {
+        Bench x = new Bench();
+        x.call().feed(0x61616720, 0x30203020, 0x30203020, 0x300a630a, 0x61626364);
+        for (int n : new int[] {-1, 21, Integer.MIN_VALUE, Integer.MAX_VALUE}) {
+            checks.same("end(" + n + ")", x.call().end(n), NONE);
+        }
+        checks.same("end: the bytes stay ready behind NONE", x.call().end(13), 13);
+        checks.same("end: the bytes are 0 then", x.call().end(1), 14);
+        checks.same("end: a 0 for the line's end", x.load(), "throws");
+        checks.same("end: a 0 for the line's end", x.call().fault(1), 13);
+
+        x.call().feed(0x61616720, 0, 0, 0, 0);
+        checks.same("end(0)", x.call().end(0), 0);
+        checks.same("end(0) makes the bytes 0 too", x.call().end(1), 1);
+        checks.same("end(0) makes the bytes 0 too", x.load(), "throws");
+        checks.same("end(0) makes the bytes 0 too", x.call().fault(1), 0);
+        checks.same("end: 20, twice", x.put("aag 0 0 0 0 0\nc\n" + "x".repeat(24)), 40);
+        checks.same("end: 20, twice", x.load(), "ands 0");
+    }
+
+    private static void endAtTheTapesLimit() {
+        Bench x = new Bench();
+        x.put("aag 0 0 0 0 0\nc\n" + "\0".repeat(5965));
+        checks.same("end: 5981", x.call().end(0), 5981);
+        checks.same("end(20): 6001", x.call().end(20), NONE);
+        checks.same("end(19): 6000", x.call().end(19), 6000);
+        checks.same("end(1): 6001", x.call().end(1), NONE);
+        checks.same("end(0): 6000", x.call().end(0), 6000);
+        checks.same("load of 6000", x.load(), "ands 0");
+        checks.same("end(0) behind load", x.call().end(0), 0);
+    }
+
+    private static void load() {
+        Bench x = new Bench();
+        checks.same("load: text", x.read(MIXED), "ands 3");
+        checks.same("load: the tape is empty", x.call().end(0), 0);
+        checks.same("load: binary", x.read("aig 3 2 0 1 1\n7\n\2\2"), "ands 1");
+        checks.same("load: a delta of two bytes", x.read("aig 3 2 0 1 1\n7\n\u0082\0\u0082\u0080\0"), "ands 1");
+        checks.same("load: its operands", x.form(false), "aag 3 2 0 1 1\n2\n4\n7\n6 4 2\n");
+
+        Bench y = new Bench();
+        y.read("aag 1 0 1 0 0\n2 1\n");
+        y.call().step(0);
+        checks.same("load: a latch is 1", y.call().state(), 1);
+        y.read("aag 1 0 1 0 0\n2 1\n");
+        checks.same("load: all latches are 0", y.call().state(), 0);
+    }
+
+    private static void loadLeavesTheCircuitBefore() {
+        Bench x = new Bench();
+        x.read("aag 2 1 1 1 0\n2\n4 1\n4\ni0 in\n");
+        x.call().step(0);
+        String[] bad = {
+            "aag 9 5 2 1 1\n2\n4\n6\n8\n10\n12 13\n14 12\n5\n16 0 4\ni0 other\ni1 z\nx",
+            "aig 3 2 0 1 1\n7\n\2\7", "aag 401 0 0 0 0\n", "aag 2 0 1 0 0\n2 4\n", "aag 2 0 0 0 1\n4 4 4\n"};
+        for (String file : bad) {
+            checks.same("load: refused", x.read(file).substring(0, 5), "fault");
+            checks.same("load: the tape is empty behind a fault", x.call().end(0), 0);
+            checks.same("load: the latches stay", x.call().state(), 1);
+            checks.same("load: M stays", x.call().many(0), 2);
+            checks.same("load: the name stays", x.name(0, 0), "in");
+            checks.same("load: the text stays", x.form(false), "aag 2 1 1 1 0\n2\n4 1\n4\ni0 in\n");
+        }
+        checks.same("load: it still runs", x.call().step(0), 1);
+    }
+
+    private static void fault() {
+        Bench x = new Bench();
+        checks.same("fault", x.read("aag 1 1 0 0 0\n3\n"), "fault 4 at 14");
+        for (int what : new int[] {2, 3, -1, Integer.MIN_VALUE, Integer.MAX_VALUE}) {
+            checks.same("fault(" + what + ")", x.call().fault(what), NONE);
+        }
+        x.put("aag 0 0 0 0 0\n");
+        checks.same("fault: of the latest load", x.call().fault(0), 4);
+        checks.same("fault: gone with a sound file", x.load(), "ands 0");
+        checks.same("fault: gone with a sound file", x.call().fault(0), 0);
+        checks.same("fault: gone with a sound file", x.call().fault(1), NONE);
+    }
+
+    private static void many() {
+        Bench x = new Bench();
+        x.read(MIXED);
+        int[] due = {9, 2, 2, 3, 3};
+        for (int what = 0; what < due.length; what++) {
+            checks.same("many(" + what + ")", x.call().many(what), due[what]);
+        }
+        for (int what : new int[] {5, -1, Integer.MIN_VALUE, Integer.MAX_VALUE}) {
+            checks.same("many(" + what + ")", x.call().many(what), NONE);
+        }
+    }
+
+    private static void symbol() {
+        Bench x = new Bench();
+        x.read(MIXED);
+        String[][] due = {{"yy", "x", ""}, {"a b", "", ""}, {"", "", "one", ""}};
+        for (int kind = 0; kind < due.length; kind++) {
+            for (int k = 0; k < due[kind].length; k++) {
+                checks.same("name " + kind + " " + k, x.name(kind, k), due[kind][k]);
+            }
+        }
+        for (int odd : ODD_NUMBERS) {
+            checks.same("symbol(" + odd + ", 0, 0)", x.call().symbol(odd, 0, 0), NONE);
+            checks.same("symbol(0, " + odd + ", 0)", x.call().symbol(0, odd, 0), NONE);
+            checks.same("symbol(0, 0, " + odd + ")", x.call().symbol(0, 0, odd), NONE);
+        }
+        checks.same("symbol(3, 0, 0)", x.call().symbol(3, 0, 0), NONE);
+        checks.same("symbol(1, 0, 3)", x.call().symbol(1, 0, 3), NONE);
+
+        String longest = "n".repeat(39) + " ";
+        x.read("aag 0 0 0 8 0\n0\n0\n0\n0\n0\n0\n0\n0\no7 " + longest + "\n");
+        checks.same("a name of 40 bytes", x.name(2, 7), longest);
+        checks.same("names go with their circuit", x.name(2, 2), "");
+        x.read("aag 1 1 0 8 0\n2\n0\n0\n0\n0\n0\n0\n0\n0\n");
+        checks.same("names go with their circuit", x.name(0, 0), "");
+        checks.same("names go with their circuit", x.name(2, 7), "");
+    }
+
+    private static void textForm() {
+        Bench x = new Bench();
+        x.read(MIXED);
+        checks.same("text: own literals and order, symbols sorted, no comment", x.form(false),
+            "aag 9 2 2 3 3\n4\n2\n10 13\n12 18\n14\n11\n1\n14 18 4\n16 5 10\n18 2 13\ni0 yy\ni1 x\nl0 a b\no2 one\n");
+        for (int odd : ODD_NUMBERS) {
+            checks.same("form(false, " + odd + ")", x.call().form(false, odd), NONE);
+            checks.same("form(true, " + odd + ")", x.call().form(true, odd), NONE);
+        }
+        x.read("aig 4 1 1 1 2\n9\n5\n\1\0\u0004\u0001c\n..");
+        checks.same("text: of a binary file", x.form(false), "aag 4 1 1 1 2\n2\n4 9\n5\n6 5 5\n8 4 3\n");
+    }
+
+    private static void binaryForm() {
+        Bench x = new Bench();
+        x.read(MIXED);
+        // Old variables 2, 1, 5, 6 are the new 1 .. 4; the ands come as 8, 9, 7: the new 5, 6, 7.
+        checks.same("binary: numbered anew", x.form(true),
+            "aig 7 2 2 3 3\n9\n12\n14\n7\n1\n\4\3\3\5\2\12i0 yy\ni1 x\nl0 a b\no2 one\n");
+        checks.same("binary: of a new circuit", x.read("aig 3 2 0 1 1\n7\n\2\2i0 q\n"), "ands 1");
+        checks.same("binary: of a new circuit", x.form(true), "aig 3 2 0 1 1\n7\n\2\2i0 q\n");
+        x.read("aag 400 1 0 1 1\n800\n400\n400 0 801\n");
+        checks.same("binary: variables without use go", x.form(true), "aig 2 1 0 1 1\n4\n\1\3");
+        checks.same("binary: a delta of 127", deltasOfAnd64("0 1"), "\u007f\1");
+        checks.same("binary: a delta of 128", deltasOfAnd64("0 0"), "\u0080\1\0");
+    }
+
+    private static String deltasOfAnd64(String operands) {
+        StringBuilder file = new StringBuilder("aag 64 0 0 0 64\n");
+        for (int v = 1; v <= 63; v++) {
+            file.append(2 * v).append(" 0 1\n");
+        }
+        file.append("128 ").append(operands).append('\n');
+        String form = Bench.longForm(file.toString(), true);
+        return form.substring("aig 64 0 0 0 64\n".length() + 2 * 63);
+    }
+
+    private static void orderOfAnds() {
+        Bench x = new Bench();
+        // 2 waits for 4, which comes at once; then 2 comes before 6, though 6 was ready with 4.
+        x.read("aag 3 0 0 3 3\n2\n4\n6\n2 4 1\n4 1 1\n6 1 0\n");
+        checks.same("order: again from the first", x.form(true), "aig 3 0 0 3 3\n4\n2\n6\n\1\0\2\1\5\1");
+        // A chain from its end: 2 waits for 4, 4 for 6, 6 for 8.
+        x.read("aag 4 0 0 1 4\n3\n2 4 4\n4 7 6\n6 1 8\n8 1 0\n");
+        checks.same("order: a chain from its end", x.form(true), "aig 4 0 0 1 4\n9\n\1\1\2\1\1\1\2\0");
+    }
+
+    private static void longestForms() {
+        String name = "x".repeat(40);
+        StringBuilder file = new StringBuilder("aag 400 6 7 8 300\n");
+        StringBuilder names = new StringBuilder();
+        for (int k = 0; k < 6; k++) {
+            file.append(800 - 2 * k).append('\n');
+            names.append('i').append(k).append(' ').append(name).append('\n');
+        }
+        for (int k = 0; k < 7; k++) {
+            file.append(780 - 2 * k).append(' ').append(801 - 2 * (k % 6)).append('\n');
+            names.append('l').append(k).append(' ').append(name).append('\n');
+        }
+        for (int k = 0; k < 8; k++) {
+            file.append(750 - 2 * k).append('\n');
+            names.append('o').append(k).append(' ').append(name).append('\n');
+        }
+        for (int i = 0; i < 300; i++) {
+            file.append(750 - 2 * i).append(" 800 801\n");
+        }
+        file.append(names);
+        checks.same("the longest text's length", file.length(), 4654);
+        checks.same("the longest text", Bench.longForm(file.toString(), false), file.toString());
+        String binary = Bench.longForm(file.toString(), true);
+        checks.same("its binary form", Bench.longForm(binary, true), binary);
+        checks.same("its binary form's first line", binary.substring(0, 18), "aig 313 6 7 8 300\n");
+        checks.same("its last delta of two bytes", binary.substring(binary.indexOf("i0 ") - 3, binary.indexOf("i0 ")),
+            "\u00ef\4\1");
+    }
+
+    private static void resetAndState() {
+        Bench x = new Bench();
+        x.read("aag 7 0 7 0 0\n2 1\n4 3\n6 5\n8 1\n10 0\n12 1\n14 1\n");
+        checks.same("state", x.call().state(), 0);
+        x.call().step(0);
+        checks.same("state: latch 0 the lowest", x.call().state(), 0b1101111);
+        x.call().reset();
+        checks.same("reset: state", x.call().state(), 0);
+        checks.same("reset: value", x.call().value(2, 0), 0);
+        checks.same("reset: the circuit stays", x.call().many(2), 7);
+        x.call().step(0);
+        checks.same("reset: from the start again", x.call().state(), 0b1101111);
+    }
+
+    private static void value() {
+        Bench x = new Bench();
+        x.read("aag 9 6 1 0 1\n2\n4\n6\n8\n10\n12\n16 17\n18 17 12\n");
+        for (int k = 0; k < 6; k++) {
+            checks.same("value: input " + k, x.call().value(2 * k + 2, 1 << k), 1);
+            checks.same("value: input " + k, x.call().value(2 * k + 2, ~(1 << k)), 0);
+            checks.same("value: not input " + k, x.call().value(2 * k + 3, 1 << k), 0);
+        }
+        checks.same("value(0)", x.call().value(0, -1), 0);
+        checks.same("value(1)", x.call().value(1, 0), 1);
+        checks.same("value: defined nowhere", x.call().value(14, -1), NONE);
+        checks.same("value: defined nowhere", x.call().value(15, -1), NONE);
+        checks.same("value: the last literal", x.call().value(19, 32), 0);
+        checks.same("value: behind it", x.call().value(20, 32), NONE);
+        for (int odd : ODD_NUMBERS) {
+            checks.same("value(" + odd + ")", x.call().value(odd, -1), NONE);
+        }
+        checks.same("value: and", x.call().value(18, 32), 1);
+        checks.same("value: it does not step", x.call().state(), 0);
+        x.call().step(0);
+        checks.same("value: with the latch at 1", x.call().value(18, 32), 0);
+        checks.same("value: latch", x.call().value(16, 0), 1);
+        checks.same("value: not latch", x.call().value(17, 0), 0);
+        x.read("aag 9 0 0 0 0\n");
+        checks.same("value: of the circuit before", x.call().value(2, -1), NONE);
+    }
+
+    private static void step() {
+        Bench x = new Bench();
+        // Two latches that change places, the first negated: each takes the other's old bit.
+        x.read("aag 3 1 2 3 0\n2\n4 7\n6 4\n4\n6\n3\n");
+        int[] outputs = {0, 1, 3, 2, 0};
+        int[] states = {1, 3, 2, 0, 1};
+        for (int i = 0; i < outputs.length; i++) {
+            checks.same("step " + i, x.call().step(1), outputs[i]);
+            checks.same("state " + i, x.call().state(), states[i]);
+        }
+        checks.same("step: the input's bit alone", x.call().step(-2), 4 + 1);
+        x.read("aag 0 0 0 8 0\n1\n0\n0\n0\n0\n0\n0\n1\n");
+        checks.same("step: output 0 the lowest, output 7 the highest", x.call().step(0), 129);
+        x.read("aag 4 2 0 1 2\n2\n4\n8\n8 6 7\n6 2 4\n");
+        checks.same("step: ands against their order", x.call().step(3), 0);
+        x.read("aag 4 2 0 1 2\n2\n4\n8\n8 6 1\n6 2 5\n");
+        checks.same("step: ands against their order", x.call().step(1), 1);
+        checks.same("step: ands against their order", x.call().step(3), 0);
+    }
+}
