@@ -236,6 +236,7 @@ public final class FaultsTest {
         due("aag 2 0 1 0 1\n2 4\n4 2 2\n", "ands 1");
         due("aag 2 1 0 0 1\n2\n4 4 2\n", "fault 6 at 2");
 
+        due("aag 400 0 0 0 3\n2 800 1\n4 800 1\n800 4 1\n", "fault 6 at 2");
         StringBuilder ring = new StringBuilder("aag 400 0 0 0 300\n");
         for (int v = 400; v > 100; v--) {
             ring.append(2 * v).append(v == 101 ? " 800" : " " + (2 * v - 2)).append(" 1\n");

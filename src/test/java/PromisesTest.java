@@ -18,6 +18,7 @@ public final class PromisesTest {
         end();
         endAtTheTapesLimit();
         load();
+        loadForgetsTheFilesBefore();
         loadLeavesTheCircuitBefore();
         fault();
         many();
@@ -107,10 +108,23 @@ public final class PromisesTest {
 
         Bench y = new Bench();
         y.read("aag 1 0 1 0 0\n2 1\n");
-        y.call().step(0);
-        checks.same("load: a latch is 1", y.call().state(), 1);
-        y.read("aag 1 0 1 0 0\n2 1\n");
-        checks.same("load: all latches are 0", y.call().state(), 0);
+        for (int times = 0; times < 4; times++) {
+            y.call().step(0);
+            checks.same("load: a latch is 1", y.call().state(), 1);
+            y.read("aag 1 0 1 0 0\n2 1\n");
+            checks.same("load: all latches are 0", y.call().state(), 0);
+        }
+    }
+
+    private static void loadForgetsTheFilesBefore() {
+        Bench x = new Bench();
+        for (int times = 0; times < 3; times++) {
+            checks.same("load: variables of files before", x.read("aag 400 2 0 0 0\n2\n800\n"), "ands 0");
+            checks.same("load: a literal of files before", x.read("aag 4 0 0 1 0\n8\n"), "fault 5 at 14");
+            checks.same("load: loops of files before", x.read("aag 1 0 0 0 1\n2 2 2\n"), "fault 6 at 1");
+            checks.same("load: names of files before", x.read("aag 1 1 0 0 0\n2\ni0 x\n"), "ands 0");
+            checks.same("load: the other form before", x.read("aig 1 1 0 0 0\ni0 x\n"), "ands 0");
+        }
     }
 
     private static void loadLeavesTheCircuitBefore() {
@@ -191,6 +205,12 @@ public final class PromisesTest {
             checks.same("form(false, " + odd + ")", x.call().form(false, odd), NONE);
             checks.same("form(true, " + odd + ")", x.call().form(true, odd), NONE);
         }
+        String digits = "aag 54 1 0 5 0\n100\n0\n1\n100\n101\n100\ni0 ten 10\n";
+        x.read(digits);
+        checks.same("text: numbers of one to three digits", x.form(false), digits);
+        String tens = "aag 10 2 0 2 0\n10\n8\n9\n10\n";
+        x.read(tens);
+        checks.same("text: 9 and 10", x.form(false), tens);
         x.read("aig 4 1 1 1 2\n9\n5\n\1\0\u0004\u0001c\n..");
         checks.same("text: of a binary file", x.form(false), "aag 4 1 1 1 2\n2\n4 9\n5\n6 5 5\n8 4 3\n");
     }
@@ -317,5 +337,21 @@ public final class PromisesTest {
         x.read("aag 4 2 0 1 2\n2\n4\n8\n8 6 1\n6 2 5\n");
         checks.same("step: ands against their order", x.call().step(1), 1);
         checks.same("step: ands against their order", x.call().step(3), 0);
+        longestStep();
+    }
+
+    /** Each and negates the one before: 300 of them, and an output at each end. */
+    private static void longestStep() {
+        StringBuilder file = new StringBuilder("aag 400 1 1 2 300\n2\n800 799\n798\n200\n200 2 1\n");
+        for (int v = 101; v < 400; v++) {
+            file.append(2 * v).append(" 1 ").append(2 * v - 1).append('\n');
+        }
+        Bench x = new Bench();
+        checks.same("step: 300 ands", x.read(file.toString()), "ands 300");
+        checks.same("step: 300 ands", x.call().step(1), 2);
+        checks.same("step: 300 ands", x.call().state(), 1);
+        checks.same("step: 300 ands", x.call().step(0), 1);
+        checks.same("step: 300 ands", x.call().state(), 0);
+        checks.same("value: 300 ands", x.call().value(799, 1), 1);
     }
 }
