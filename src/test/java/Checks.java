@@ -2,6 +2,24 @@
 final class Checks {
     private int made = 0;
     private int wrong = 0;
+    private int sentences = 0;
+    private int madeBeforeSentence = 0;
+    private String sentence = "";
+
+    /** The document's sentence, in its words, that the next answers are about. */
+    void sentence(String words) {
+        endSentence();
+        sentences++;
+        sentence = words;
+        madeBeforeSentence = made;
+    }
+
+    /** A sentence without a check would look as if it had been tested. */
+    private void endSentence() {
+        if (sentences > 0 && made == madeBeforeSentence) {
+            tell("nothing is checked");
+        }
+    }
 
     void same(String call, long got, long due) {
         made++;
@@ -17,8 +35,19 @@ final class Checks {
         }
     }
 
+    /** What a new object makes of a file: "ands n", or "fault f at p". */
+    void reads(String file, String due) {
+        same(shown(file), new Bench().read(file), due);
+    }
+
+    void endsTooEarly(String file) {
+        reads(file, "fault 1 at " + file.length());
+    }
+
     void finish() {
-        System.out.println(wrong == 0 ? made + " answers are as due" : wrong + " of " + made + " answers are not as due");
+        endSentence();
+        String all = made + " answers" + (sentences > 0 ? " to " + sentences + " sentences" : "");
+        System.out.println(wrong == 0 ? all + " are as due" : wrong + " of " + all + " are not as due");
         if (wrong != 0) {
             System.exit(1);
         }
@@ -27,7 +56,7 @@ final class Checks {
     private void tell(String line) {
         wrong++;
         if (wrong <= 40) {
-            System.out.println(line);
+            System.out.println(sentence.isEmpty() ? line : "'" + sentence + "': " + line);
         }
     }
 

@@ -1,4 +1,4 @@
-/** The promises one by one: ordinary inputs, the edges that the document names, wrong inputs. */
+/** The promises one by one, on ordinary inputs and on wrong ones; their edges stand in EdgesTest. */
 public final class PromisesTest {
     private static final int NONE = CircuitFiles.NONE;
     private static final int[] ODD_NUMBERS = {NONE, -2, 1000, Integer.MAX_VALUE, Integer.MIN_VALUE};
@@ -16,7 +16,6 @@ public final class PromisesTest {
         newObject();
         feed();
         end();
-        endAtTheTapesLimit();
         load();
         loadForgetsTheFilesBefore();
         loadLeavesTheCircuitBefore();
@@ -25,8 +24,6 @@ public final class PromisesTest {
         symbol();
         textForm();
         binaryForm();
-        orderOfAnds();
-        longestForms();
         resetAndState();
         value();
         step();
@@ -84,18 +81,6 @@ public final class PromisesTest {
         checks.same("end(0) makes the bytes 0 too", x.call().fault(1), 0);
         checks.same("end: 20, twice", x.put("aag 0 0 0 0 0\nc\n" + "x".repeat(24)), 40);
         checks.same("end: 20, twice", x.load(), "ands 0");
-    }
-
-    private static void endAtTheTapesLimit() {
-        Bench x = new Bench();
-        x.put("aag 0 0 0 0 0\nc\n" + "\0".repeat(5965));
-        checks.same("end: 5981", x.call().end(0), 5981);
-        checks.same("end(20): 6001", x.call().end(20), NONE);
-        checks.same("end(19): 6000", x.call().end(19), 6000);
-        checks.same("end(1): 6001", x.call().end(1), NONE);
-        checks.same("end(0): 6000", x.call().end(0), 6000);
-        checks.same("load of 6000", x.load(), "ands 0");
-        checks.same("end(0) behind load", x.call().end(0), 0);
     }
 
     private static void load() {
@@ -225,57 +210,6 @@ public final class PromisesTest {
         checks.same("binary: of a new circuit", x.form(true), "aig 3 2 0 1 1\n7\n\2\2i0 q\n");
         x.read("aag 400 1 0 1 1\n800\n400\n400 0 801\n");
         checks.same("binary: variables without use go", x.form(true), "aig 2 1 0 1 1\n4\n\1\3");
-        checks.same("binary: a delta of 127", deltasOfAnd64("0 1"), "\u007f\1");
-        checks.same("binary: a delta of 128", deltasOfAnd64("0 0"), "\u0080\1\0");
-    }
-
-    private static String deltasOfAnd64(String operands) {
-        StringBuilder file = new StringBuilder("aag 64 0 0 0 64\n");
-        for (int v = 1; v <= 63; v++) {
-            file.append(2 * v).append(" 0 1\n");
-        }
-        file.append("128 ").append(operands).append('\n');
-        String form = Bench.longForm(file.toString(), true);
-        return form.substring("aig 64 0 0 0 64\n".length() + 2 * 63);
-    }
-
-    private static void orderOfAnds() {
-        Bench x = new Bench();
-        // 2 waits for 4, which comes at once; then 2 comes before 6, though 6 was ready with 4.
-        x.read("aag 3 0 0 3 3\n2\n4\n6\n2 4 1\n4 1 1\n6 1 0\n");
-        checks.same("order: again from the first", x.form(true), "aig 3 0 0 3 3\n4\n2\n6\n\1\0\2\1\5\1");
-        // A chain from its end: 2 waits for 4, 4 for 6, 6 for 8.
-        x.read("aag 4 0 0 1 4\n3\n2 4 4\n4 7 6\n6 1 8\n8 1 0\n");
-        checks.same("order: a chain from its end", x.form(true), "aig 4 0 0 1 4\n9\n\1\1\2\1\1\1\2\0");
-    }
-
-    private static void longestForms() {
-        String name = "x".repeat(40);
-        StringBuilder file = new StringBuilder("aag 400 6 7 8 300\n");
-        StringBuilder names = new StringBuilder();
-        for (int k = 0; k < 6; k++) {
-            file.append(800 - 2 * k).append('\n');
-            names.append('i').append(k).append(' ').append(name).append('\n');
-        }
-        for (int k = 0; k < 7; k++) {
-            file.append(780 - 2 * k).append(' ').append(801 - 2 * (k % 6)).append('\n');
-            names.append('l').append(k).append(' ').append(name).append('\n');
-        }
-        for (int k = 0; k < 8; k++) {
-            file.append(750 - 2 * k).append('\n');
-            names.append('o').append(k).append(' ').append(name).append('\n');
-        }
-        for (int i = 0; i < 300; i++) {
-            file.append(750 - 2 * i).append(" 800 801\n");
-        }
-        file.append(names);
-        checks.same("the longest text's length", file.length(), 4654);
-        checks.same("the longest text", Bench.longForm(file.toString(), false), file.toString());
-        String binary = Bench.longForm(file.toString(), true);
-        checks.same("its binary form", Bench.longForm(binary, true), binary);
-        checks.same("its binary form's first line", binary.substring(0, 18), "aig 313 6 7 8 300\n");
-        checks.same("its last delta of two bytes", binary.substring(binary.indexOf("i0 ") - 3, binary.indexOf("i0 ")),
-            "\u00ef\4\1");
     }
 
     private static void resetAndState() {
